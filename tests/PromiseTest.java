@@ -291,6 +291,9 @@ public final class PromiseTest {
             x.write(0, 3, wrong);
             Check.refused("no VALUE", x, x.pack(0, 0), 1);
         }
+        x.write(0, 3, 0);
+        x.write(0, 0, -2);
+        Check.refused("no VALUE in the first place", x, x.pack(0, 0), 1);
         Check.due("nothing was put", x.rows(0, 1), 4);
         x.tray(1, 0, 0);
         Check.well("pack of none", x, x.pack(0, 1), 0);
@@ -336,9 +339,10 @@ public final class PromiseTest {
         x.put(1, 20, 1);
         x.put(1, -1, 5);
         x.strike(1, 20, 1);
-        Check.well("with VALUES", x, x.rows(1, 0), 7);
-        Check.well("all", x, x.rows(1, 1), 12);
-        Check.well("VALUES", x, x.rows(1, 2), 2);
+        x.put(1, 21, 1);
+        Check.well("with VALUES", x, x.rows(1, 0), 8);
+        Check.well("all", x, x.rows(1, 1), 13);
+        Check.well("VALUES", x, x.rows(1, 2), 3);
         Check.well("elsewhere", x, x.rows(0, 1), 0);
         for (int what : new int[] {-1, 3, MIN, MAX}) {
             Check.refused("rows", x, x.rows(1, what), 1);
@@ -631,6 +635,20 @@ public final class PromiseTest {
         Check.span(y, 0, 2, 2, 39, 2, 0, 38);
         Check.well("no PAIR without GREATEST", oneSpan(5, 5), oneSpan(5, 5).keep(0), 0);
         keepToTheRight();
+        keepFirstGreatest();
+    }
+
+    private static void keepFirstGreatest() {
+        SpanSketch x = new SpanSketch();
+        for (int v : new int[] {0, 1, 20, 21}) {
+            x.put(0, v, 4);
+        }
+        x.make(0, 4, 1, 1);
+        x.split(0, 10);
+        Check.well("keep", x, x.keep(0), 1);
+        Check.span(x, 0, 0, 0, 0, 4, 4, 1);
+        Check.span(x, 0, 2, 2, 19, 0, 0, 18);
+        Check.span(x, 0, 3, 20, 21, 8, 0, 2);
     }
 
     /** PAIR ahead of GREATEST, of which the HEAVY VALUES don't count for its half. */
@@ -750,6 +768,28 @@ public final class PromiseTest {
         x.strike(1, 0, 1);
         Check.well("100,000", x, x.together(0, 1), 1);
         Check.due("all", x.sketch(0, 2) + x.sketch(0, 3), 100_000);
+        heavyLimit();
+    }
+
+    /** HEAVY counts alone; VALUE 0 is HEAVY in the other one, too. */
+    private static void heavyLimit() {
+        SpanSketch x = new SpanSketch();
+        putMany(x, 0, 0, 10_000);
+        putMany(x, 1, 0, 10_000);
+        x.make(0, 1, 1, 1);
+        x.make(1, 1, 1, 1);
+        int[] sums = {20_000, 30_000, 50_000, 80_000};
+        for (int i = 0; i < sums.length; i++) {
+            Check.well("together", x, x.together(i % 2, 1 - i % 2), 1);
+            Check.due("heavy", x.heavy(i % 2, 0), sums[i]);
+        }
+        Check.refused("130,000", x, x.together(0, 1), 4);
+        x.make(1, 1, 0, 1);
+        x.put(2, 0, 2);
+        x.put(2, 1, 3);
+        x.make(2, 1, 1, 1);
+        Check.well("HEAVY in the other one alone", x, x.together(2, 1), 1);
+        Check.span(x, 2, 0, 0, 39, 10_005, 0, 40);
     }
 
     // ---- promise 23
