@@ -3,7 +3,7 @@ import java.lang.management.ManagementFactory;
 
 /** An object makes all it needs when it is made: no call makes an object or an array. */
 public final class RoomTest {
-    private static final int ROUNDS = 200;
+    private static final int ROUNDS = 2000;
     private static final long MOST_BYTES = 32_000;
 
     public static void main(String[] args) {
