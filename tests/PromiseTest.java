@@ -47,22 +47,6 @@ public final class PromiseTest {
         Check.end();
     }
 
-    /** Column 0 with a SKETCH of one SPAN: so many ROWS of the VALUES 0 and 1, none HEAVY. */
-    private static SpanSketch oneSpan(int zeros, int ones) {
-        SpanSketch x = new SpanSketch();
-        putMany(x, 0, 0, zeros);
-        putMany(x, 0, 1, ones);
-        x.make(0, 1, 1, 1);
-        Check.due("HEAVY at first", x.sketch(0, 1), 0);
-        return x;
-    }
-
-    private static void putMany(SpanSketch x, int column, int value, int many) {
-        for (int left = many; left > 0; left -= 1000) {
-            Check.well("put", x, x.put(column, value, Math.min(left, 1000)));
-        }
-    }
-
     // ---- promise 1
     private static void newObject() {
         SpanSketch x = new SpanSketch();
@@ -92,7 +76,7 @@ public final class PromiseTest {
 
     // ---- promises 3 and 4
     private static void topAndBottom() {
-        SpanSketch x = oneSpan(3, 3);
+        SpanSketch x = Made.oneSpan(3, 3);
         Check.well("guess", x, x.guess(0, 0, 3), 1);
         Check.fraction("6 by 40, 4 times", x, 3, 5);
         Check.refused("guess", x, x.guess(0, 4, 3), 1);
@@ -242,7 +226,7 @@ public final class PromiseTest {
 
     // ---- promise 10
     private static void strike() {
-        SpanSketch x = oneSpan(3, 2);
+        SpanSketch x = Made.oneSpan(3, 2);
         x.put(0, -1, 4);
         for (int c : NO_COLUMN) {
             Check.refused("strike", x, x.strike(c, 0, 1), 1);
@@ -302,7 +286,7 @@ public final class PromiseTest {
 
     private static void packFull() {
         SpanSketch x = new SpanSketch();
-        putMany(x, 2, 3, 9998);
+        Made.rows(x, 2, 3, 9998);
         x.tray(0, 2, 3);
         Check.refused("one too many", x, x.pack(2, 0), 4);
         Check.due("nothing was put", x.rows(2, 1), 9998);
@@ -315,7 +299,7 @@ public final class PromiseTest {
 
     // ---- promise 12
     private static void truly() {
-        SpanSketch x = oneSpan(3, 1);
+        SpanSketch x = Made.oneSpan(3, 1);
         for (int c : NO_COLUMN) {
             Check.refused("truly", x, x.truly(c, 0), 1);
         }
@@ -407,7 +391,7 @@ public final class PromiseTest {
     }
 
     private static void makeWrong() {
-        SpanSketch x = oneSpan(2, 1);
+        SpanSketch x = Made.oneSpan(2, 1);
         for (int c : NO_COLUMN) {
             Check.refused("make", x, x.make(c, 1, 1, 1), 1);
         }
@@ -428,7 +412,7 @@ public final class PromiseTest {
 
     // ---- promise 15
     private static void away() {
-        SpanSketch x = oneSpan(2, 1);
+        SpanSketch x = Made.oneSpan(2, 1);
         for (int c : NO_COLUMN) {
             Check.refused("away", x, x.away(c), 1);
         }
@@ -444,7 +428,7 @@ public final class PromiseTest {
 
     // ---- promise 16
     private static void sketch() {
-        SpanSketch x = oneSpan(6, 4);
+        SpanSketch x = Made.oneSpan(6, 4);
         for (int c : NO_COLUMN) {
             Check.refused("sketch", x, x.sketch(c, 0), 1);
         }
@@ -465,7 +449,7 @@ public final class PromiseTest {
 
     // ---- promise 17
     private static void span() {
-        SpanSketch x = oneSpan(6, 4);
+        SpanSketch x = Made.oneSpan(6, 4);
         for (int c : NO_COLUMN) {
             Check.refused("span", x, x.span(c, 0, 0), 1);
         }
@@ -485,7 +469,7 @@ public final class PromiseTest {
 
     // ---- promise 18
     private static void heavy() {
-        SpanSketch x = oneSpan(6, 4);
+        SpanSketch x = Made.oneSpan(6, 4);
         for (int c : NO_COLUMN) {
             Check.refused("heavy", x, x.heavy(c, 0), 1);
         }
@@ -507,7 +491,7 @@ public final class PromiseTest {
 
     // ---- promise 19
     private static void split() {
-        SpanSketch x = oneSpan(6, 5);
+        SpanSketch x = Made.oneSpan(6, 5);
         for (int c : NO_COLUMN) {
             Check.refused("split", x, x.split(c, 0), 1);
         }
@@ -549,7 +533,7 @@ public final class PromiseTest {
     }
 
     private static void splitBelowNone() {
-        SpanSketch x = oneSpan(2, 2);
+        SpanSketch x = Made.oneSpan(2, 2);
         x.split(0, 1);
         Check.span(x, 0, 0, 0, 1, 0, 4, 2);
         x.strike(0, 0, 2);
@@ -562,7 +546,7 @@ public final class PromiseTest {
 
     // ---- promise 20
     private static void melt() {
-        SpanSketch x = oneSpan(5, 5);
+        SpanSketch x = Made.oneSpan(5, 5);
         for (int c : NO_COLUMN) {
             Check.refused("melt", x, x.melt(c, 0), 1);
         }
@@ -586,8 +570,8 @@ public final class PromiseTest {
 
     private static void greatestDoubt() {
         SpanSketch x = new SpanSketch();
-        putMany(x, 0, 0, 5000);
-        putMany(x, 0, 1, 5000);
+        Made.rows(x, 0, 0, 5000);
+        Made.rows(x, 0, 1, 5000);
         x.make(0, 1, 1, 1);
         long doubt = 0;
         for (int i = 0; i < 9; i++) {
@@ -633,7 +617,7 @@ public final class PromiseTest {
         Check.span(y, 0, 0, 0, 0, 2, 3, 1);
         Check.span(y, 0, 1, 1, 1, 3, 3, 1);
         Check.span(y, 0, 2, 2, 39, 2, 0, 38);
-        Check.well("no PAIR without GREATEST", oneSpan(5, 5), oneSpan(5, 5).keep(0), 0);
+        Check.well("no PAIR without GREATEST", Made.oneSpan(5, 5), Made.oneSpan(5, 5).keep(0), 0);
         keepToTheRight();
         keepFirstGreatest();
     }
@@ -748,8 +732,8 @@ public final class PromiseTest {
     private static void togetherLimit() {
         SpanSketch x = new SpanSketch();
         for (int c = 0; c < 2; c++) {
-            putMany(x, c, 0, 5000);
-            putMany(x, c, 1, 5000);
+            Made.rows(x, c, 0, 5000);
+            Made.rows(x, c, 1, 5000);
             x.make(c, 1, 1, 1);
         }
         for (int i = 0; i < 3; i++) {
@@ -774,8 +758,8 @@ public final class PromiseTest {
     /** HEAVY counts alone; VALUE 0 is HEAVY in the other one, too. */
     private static void heavyLimit() {
         SpanSketch x = new SpanSketch();
-        putMany(x, 0, 0, 10_000);
-        putMany(x, 1, 0, 10_000);
+        Made.rows(x, 0, 0, 10_000);
+        Made.rows(x, 1, 0, 10_000);
         x.make(0, 1, 1, 1);
         x.make(1, 1, 1, 1);
         int[] sums = {20_000, 30_000, 50_000, 80_000};
@@ -794,7 +778,7 @@ public final class PromiseTest {
 
     // ---- promise 23
     private static void drifts() {
-        SpanSketch x = oneSpan(5, 5);
+        SpanSketch x = Made.oneSpan(5, 5);
         for (int c : NO_COLUMN) {
             Check.refused("drifts", x, x.drifts(c), 1);
         }
@@ -840,7 +824,7 @@ public final class PromiseTest {
         x.strike(0, 3, 50);
         Check.well("guess", x, x.guess(0, 3, 3), 0);
         Check.fraction("none", x, 0, 1);
-        SpanSketch y = oneSpan(3, 1);
+        SpanSketch y = Made.oneSpan(3, 1);
         y.split(0, 0);
         y.strike(0, 0, 3);
         Check.well("guess", y, y.guess(0, 0, 0), -1);
@@ -931,7 +915,7 @@ public final class PromiseTest {
 
     // ---- promise 26
     private static void join() {
-        SpanSketch x = oneSpan(6, 4);
+        SpanSketch x = Made.oneSpan(6, 4);
         x.put(1, 0, 5);
         x.make(1, 1, 1, 2);
         Check.refused("either", x, x.join(0, 2), 5);
