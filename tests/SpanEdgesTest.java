@@ -20,6 +20,7 @@ public final class SpanEdgesTest {
         meltDoubtLimit();
         doubtsStayAtLimit();
         keepWithoutPair();
+        keepBetweenBelowNone();
         keepAboveTwice();
         keepAboveTwiceBelowNone();
         keepLongOfGreatest();
@@ -340,6 +341,27 @@ public final class SpanEdgesTest {
                 Check.well("DOUBTS", x, x.sketch(0, 2), 50 * did);
             }
         }
+    }
+
+    /** "neither of them GREATEST": not even with a neighbour so far below 0 that they were the least. */
+    private static void keepBetweenBelowNone() {
+        SpanSketch x = belowNone(13);
+        x.split(0, 20);
+        x.put(0, 3, 5);
+        SpanSketch y = new SpanSketch();
+        Made.emptySpans(y, 0);
+        y.put(0, 39, 5);
+        y.split(0, 36);
+        y.strike(0, 39, 5);
+        y.split(0, 10);
+        int[] left = {-13, 11, 7};
+        int[] right = {1, 3, -4};
+        for (int k = 0; k < 3; k++) {
+            Check.well("COUNT", x, x.span(0, k, 2), left[k]);
+            Check.well("COUNT", y, y.span(0, k, 2), right[k]);
+        }
+        Check.well("the left neighbour is below 0", x, x.keep(0), 0);
+        Check.well("the right neighbour is below 0", y, y.keep(0), 0);
     }
 
     /** "GREATEST's COUNT is above twice PAIR's COUNTS together". */
