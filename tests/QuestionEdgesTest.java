@@ -29,6 +29,7 @@ public final class QuestionEdgesTest {
         withoutCommonDivisor();
         toldLatest();
         greatFractions();
+        greatestTop();
         Check.end();
     }
 
@@ -501,6 +502,50 @@ public final class QuestionEdgesTest {
         Check.well("join", x, x.join(0, 1), 1);
         Check.fraction("join", x, top.divide(divisor).longValueExact(), bottom.divide(divisor).longValueExact());
         Check.due("a great bottom: " + x.bottom(), x.bottom() > 10_000, true);
+    }
+
+    /** A HEAVY VALUE with as much as TOGETHER leaves and all ROWS after it, and the greatest bottom beside. */
+    private static void greatestTop() {
+        SpanSketch x = new SpanSketch();
+        Made.rows(x, 2, 0, 10_000);
+        x.make(2, 1, 1, 1);
+        int[] ones = {4, 9, 5, 7, 13, 1};
+        int[] others = {1, 4, 9, 5, 7, 13};
+        heaviest(x, 0, ones);
+        heaviest(x, 1, others);
+        BigInteger bottom = BigInteger.valueOf(16_380L * 16_380L);
+        BigInteger top = bottom.multiply(BigInteger.valueOf(109_994L * 109_994L));
+        for (int v = 1; v < 40; v++) {
+            int length = lengthOf(v - 1, ones) * lengthOf(v - 1, others);
+            top = top.add(bottom.divide(BigInteger.valueOf(length)));
+        }
+        BigInteger divisor = top.gcd(bottom);
+        Check.well("join", x, x.join(0, 1), 1);
+        Check.fraction("join", x, top.divide(divisor).longValueExact(), bottom.divide(divisor).longValueExact());
+        Check.due("a great top: " + x.top(), x.top() > 3_000_000_000_000_000_000L, true);
+    }
+
+    /** VALUE 0 is HEAVY with 109,994; behind it SPANS of these LONGS with COUNT 1 each. */
+    private static void heaviest(SpanSketch x, int column, int[] lengths) {
+        Made.rows(x, column, 0, 10_000);
+        x.make(column, 1, 1, 1);
+        Made.struck(x, column, 0, 10_000);
+        int end = 0;
+        for (int k = 0; k < lengths.length; k++) {
+            end += lengths[k];
+            x.split(column, end);
+        }
+        for (int times = 0; times < 10; times++) {
+            Check.well("together", x, x.together(column, 2), lengths.length);
+        }
+        Check.refused("not once more", x, x.together(column, 2), 4);
+        Made.rows(x, column, 0, 9_994);
+        for (int k = 0; k < lengths.length; k++) {
+            x.put(column, x.span(column, k, 1), 1);
+            Check.due("COUNT", x.span(column, k, 2), 1);
+            Check.due("LONG", x.span(column, k, 4), lengths[k]);
+        }
+        Check.well("HEAVY", x, x.heavy(column, 0), 109_994);
     }
 
     private static int lengthOf(int value, int[] lengths) {

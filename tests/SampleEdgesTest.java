@@ -12,6 +12,7 @@ public final class SampleEdgesTest {
         fromItsBeginningOn();
         lotJustInAndJustOut();
         lotsOfAllSizes();
+        asManyAsThereCanBe();
         oneByOne();
         nullRows();
         struckStay();
@@ -167,6 +168,30 @@ public final class SampleEdgesTest {
         }
         for (int place = 0; place < k; place++) {
             Check.well("place " + place + " of " + k + " by SEED " + seed, x, x.drawn(0, place), places[place]);
+        }
+    }
+
+    /** As many ROWS as 512 calls put: t goes far above 10,000, and above all LOTS before their rest. */
+    private static void asManyAsThereCanBe() {
+        SpanSketch x = new SpanSketch();
+        Lots lots = new Lots(3);
+        int[] places = new int[16];
+        x.sample(0, 16, 3);
+        int t = 0;
+        for (int round = 0; round < 230; round++) {
+            int value = round % 40;
+            x.put(0, value, 1000);
+            x.strike(0, value, 1000);
+            for (int i = 0; i < 1000; i++) {
+                t++;
+                int place = t <= 16 ? t - 1 : lots.next(t);
+                if (place < 16) {
+                    places[place] = value;
+                }
+            }
+        }
+        for (int k = 0; k < 16; k++) {
+            Check.well("place " + k, x, x.drawn(0, k), places[k]);
         }
     }
 

@@ -327,7 +327,7 @@ public final class SpanSketch {
     public int together(int column, int other) {
         Column c = columnAt(column);
         Column o = columnAt(other);
-        if (c == null || o == null || c == o) {
+        if (c == null || o == null || column == other) {
             return none(WRONG);
         }
         if (!c.sketch.isThere() || !o.sketch.isThere()) {
@@ -567,6 +567,8 @@ public final class SpanSketch {
         private static final long STEP = 12_345L;
         private static final long LOWER_31_BITS = 0x7fffffffL;
         private static final int LOT_UNIT = 65_536;
+        // Far above what 512 calls can put, and far below where the count would wrap around.
+        private static final int MOST_SEEN = 1_000_000_000;
 
         final int[] places = new int[SAMPLE_PLACES];
         private int size;
@@ -593,8 +595,8 @@ public final class SpanSketch {
         }
 
         private void takeOne(int value) {
-            // The count stops before it would wrap around: it is a divisor.
-            if (seen < Integer.MAX_VALUE) {
+            // The count is a divisor, so it must never come to 0 again.
+            if (seen < MOST_SEEN) {
                 seen++;
             }
             int place = seen <= size ? seen - 1 : nextLot();
